@@ -9,12 +9,14 @@ final class Check {
     private Check() {
     }
 
-    /** What a call answers: the value's text, "nothing" for none, or the name of what it throws. */
+    /** What a call answers: its value's text, or the name of what the class itself throws. */
     static String answer(Call call) {
         try {
             return String.valueOf(call.make());
         } catch (RuntimeException e) {
-            return e.getClass().getSimpleName();
+            String thrower = e.getStackTrace()[0].getClassName();
+            String name = e.getClass().getSimpleName();
+            return thrower.equals("HousePlans") ? name : name + " of " + thrower;
         }
     }
 

@@ -4,6 +4,7 @@ public final class PermitsTest {
 
     public static void main(String[] args) {
         grantAsksEveryRoom();
+        grantAsksEachCellAlone();
         grantAtMost();
         holds();
         holdsByReference();
@@ -45,6 +46,35 @@ public final class PermitsTest {
         x.begin();
         Check.forbidden("no exit in the new one: grant", () -> x.grant(1));
         Check.missing("no third permit came to be", () -> x.holds(3));
+    }
+
+    /** Each cell is walled off alone, all others lie in one room with an exit. */
+    private static void grantAsksEachCellAlone() {
+        for (int cell = 0; cell < 25; cell++) {
+            HousePlans x = new HousePlans();
+            x.begin();
+            x.lock(0, 0);
+            x.setExit(0, 0, 12, cell != 12);
+            x.setExit(0, 0, 13, cell == 12);
+            Check.due(0, "all in one room: grant", () -> x.grant(0));
+            for (int side : sidesOf(cell)) {
+                if (side >= 0) {
+                    x.tell(0, 0, side, HousePlans.WALL);
+                }
+            }
+            Check.due(2, "cell " + cell + " alone: rooms", () -> x.rooms(0));
+            Check.forbidden("cell " + cell + " alone: grant", () -> x.grant(0));
+            x.setExit(0, 0, cell, true);
+            Check.due(1, "cell " + cell + " with an exit: grant", () -> x.grant(0));
+        }
+    }
+
+    /** The sides of a cell to the left and right, above and below; -1 where the floor ends. */
+    private static int[] sidesOf(int cell) {
+        int row = cell / 5;
+        int column = cell % 5;
+        return new int[] {column > 0 ? 4 * row + column - 1 : -1, column < 4 ? 4 * row + column : -1,
+            row > 0 ? 15 + cell : -1, row < 4 ? 20 + cell : -1};
     }
 
     private static void grantAtMost() {

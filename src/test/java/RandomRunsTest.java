@@ -2,8 +2,8 @@ import java.util.Random;
 
 /**
  * Long runs of calls, drawn from seeds that are written here, so that they are always the same;
- * each answer is compared with the Model's. After each call that may change something, a few
- * questions are put, so that a call that changed too much is found.
+ * each answer is compared with the Model's. After each call some questions are put, so that a call
+ * that changed too much is found.
  */
 public final class RandomRunsTest {
     private static final String INDEX = "IndexOutOfBoundsException";
@@ -14,6 +14,7 @@ public final class RandomRunsTest {
     private final Model model = new Model();
     private final Random random;
     private final String run;
+    private int calls;
 
     private RandomRunsTest(int seed) {
         random = new Random(seed);
@@ -21,39 +22,70 @@ public final class RandomRunsTest {
     }
 
     public static void main(String[] args) {
-        for (int seed = 0; seed < 300; seed++) {
+        for (int seed = 0; seed < 400; seed++) {
             new RandomRunsTest(seed).go();
         }
         Check.end();
     }
 
+    /** Ends before the 512th call, behind which nothing is promised. */
     private void go() {
-        int walls = random.nextInt(3);
-        for (int call = 0; call < 400; call++) {
+        prepare();
+        while (calls < 500) {
             int kind = random.nextInt(20);
-            if (kind < 2) {
+            if (kind < 1) {
                 begin();
+            } else if (kind < 6) {
+                tell();
             } else if (kind < 8) {
-                tell(walls);
-            } else if (kind < 9) {
                 setExit();
-            } else if (kind < 12) {
+            } else if (kind < 11) {
                 refer();
-            } else if (kind < 15) {
+            } else if (kind < 13) {
                 locks();
-            } else if (kind < 18) {
+            } else if (kind < 16) {
                 rooms();
             } else {
                 permits();
             }
-            ask();
+            if (random.nextBoolean()) {
+                askDrawings();
+            } else {
+                askPermits();
+            }
         }
+    }
+
+    /** Some locked drawings; in some runs they tell of few sides, in others of most. */
+    private void prepare() {
+        for (int count = 1 + random.nextInt(6); count > 0; count--) {
+            begin();
+        }
+        for (int each = 0; each < model.drawings; each++) {
+            int drawing = each;
+            int person = random.nextInt(6);
+            model.locker[drawing] = person;
+            due("nothing", "lock", () -> lock(drawing, person));
+        }
+        for (int count = random.nextInt(4) * 50; count > 0; count--) {
+            tell();
+        }
+    }
+
+    private void due(Object due, String what, Check.Call call) {
+        calls++;
+        Check.due(due, run + what, call);
     }
 
     /** A number from 0 to below, seldom one that is out of range. */
     private int number(int below) {
         int odd = random.nextInt(60);
         return odd == 0 ? -1 : odd == 1 ? below : random.nextInt(Math.max(1, below));
+    }
+
+    /** Often drawing 0, so that it comes to tell much. */
+    private int drawing() {
+        return model.drawings > 0 && random.nextInt(5) < 2 ? 0 : number(model.drawings);
     }
 
     /** Mostly the person who can change the drawing. */
@@ -72,20 +104,19 @@ public final class RandomRunsTest {
 
     private void begin() {
         if (model.drawings == 6) {
-            Check.due(STATE, run + "begin", () -> x.begin());
+            due(STATE, "begin", () -> x.begin());
         } else {
-            Check.due(model.drawings, run + "begin", () -> x.begin());
+            due(model.drawings, "begin", () -> x.begin());
             model.drawings++;
         }
     }
 
-    private void tell(int walls) {
-        int drawing = number(model.drawings);
+    private void tell() {
+        int drawing = drawing();
         int person = person(drawing);
         int side = number(40);
-        int what = random.nextInt(30) == 0 ? number(3) : random.nextInt(2 + walls) - 1;
-        what = what == 3 || walls == 2 && what == 0 ? 1 : what;
-        int told = random.nextInt(40) == 0 ? random.nextInt(2) * 5 - 2 : what;
+        int odd = random.nextInt(60);
+        int told = odd == 0 ? -2 : odd == 1 ? 3 : mostlyWall();
         Object due;
         if (!isDrawing(drawing)) {
             due = INDEX;
@@ -97,14 +128,20 @@ public final class RandomRunsTest {
             due = model.told[drawing][side];
             model.told[drawing][side] = told;
         }
-        Check.due(due, run + "tell", () -> x.tell(drawing, person, side, told));
+        due(due, "tell", () -> x.tell(drawing, person, side, told));
+    }
+
+    private int mostlyWall() {
+        int drawn = random.nextInt(20);
+        return drawn < 2 ? HousePlans.NONE : drawn < 4 ? HousePlans.OPEN
+                : drawn < 8 ? HousePlans.DOOR : HousePlans.WALL;
     }
 
     private void setExit() {
-        int drawing = number(model.drawings);
+        int drawing = drawing();
         int person = person(drawing);
         int cell = number(25);
-        boolean has = random.nextInt(5) == 0;
+        boolean has = random.nextInt(3) > 0;
         Object due;
         if (!isDrawing(drawing)) {
             due = INDEX;
@@ -116,11 +153,11 @@ public final class RandomRunsTest {
             due = model.exits[drawing][cell];
             model.exits[drawing][cell] = has;
         }
-        Check.due(due, run + "setExit", () -> x.setExit(drawing, person, cell, has));
+        due(due, "setExit", () -> x.setExit(drawing, person, cell, has));
     }
 
     private void refer() {
-        int drawing = number(model.drawings);
+        int drawing = drawing();
         int person = person(drawing);
         int other = number(model.drawings);
         boolean does = random.nextInt(3) > 0;
@@ -136,11 +173,11 @@ public final class RandomRunsTest {
             due = model.refers[drawing][other];
             model.refers[drawing][other] = does;
         }
-        Check.due(due, run + "refer", () -> x.refer(drawing, person, other, does));
+        due(due, "refer", () -> x.refer(drawing, person, other, does));
     }
 
     private void locks() {
-        int drawing = number(model.drawings);
+        int drawing = drawing();
         int person = random.nextInt(3) == 0 ? number(6)
                 : isDrawing(drawing) && model.locker[drawing] >= 0 ? model.locker[drawing] : 0;
         int other = random.nextInt(8) - 1;
@@ -152,13 +189,13 @@ public final class RandomRunsTest {
                 due = "nothing";
                 model.locker[drawing] = person;
             }
-            Check.due(due, run + "lock", () -> lock(drawing, person));
+            due(due, "lock", () -> lock(drawing, person));
         } else if (kind < 5) {
             if (allowed && model.locker[drawing] == person && model.borrower[drawing] == -1) {
                 due = "nothing";
                 model.locker[drawing] = -1;
             }
-            Check.due(due, run + "unlock", () -> unlock(drawing, person));
+            due(due, "unlock", () -> unlock(drawing, person));
         } else {
             if (allowed && (other > 5 || other == person)) {
                 due = ARGUMENT;
@@ -166,7 +203,7 @@ public final class RandomRunsTest {
                 due = model.borrower[drawing];
                 model.borrower[drawing] = other;
             }
-            Check.due(due, run + "lend", () -> x.lend(drawing, person, other));
+            due(due, "lend", () -> x.lend(drawing, person, other));
         }
     }
 
@@ -181,24 +218,24 @@ public final class RandomRunsTest {
     }
 
     private void rooms() {
-        int drawing = number(model.drawings);
+        int drawing = drawing();
         int cell = number(25);
         Object refused = !isDrawing(drawing) ? INDEX : !within(cell, 25) ? ARGUMENT : null;
-        Check.due(isDrawing(drawing) ? model.names(drawing).size() : INDEX, run + "rooms",
+        due(isDrawing(drawing) ? model.names(drawing).size() : INDEX, "rooms",
                 () -> x.rooms(drawing));
         int[] sides = refused == null ? model.sides(drawing) : null;
-        Check.due(refused == null ? model.roomOf(sides, cell).first() : refused, run + "room",
+        due(refused == null ? model.roomOf(sides, cell).first() : refused, "room",
                 () -> x.room(drawing, cell));
-        Check.due(refused == null ? model.roomOf(sides, cell).size() : refused, run + "size",
+        due(refused == null ? model.roomOf(sides, cell).size() : refused, "size",
                 () -> x.size(drawing, cell));
-        Check.due(refused == null ? model.doorsOut(sides, drawing, cell) : refused,
-                run + "doorsOut", () -> x.doorsOut(drawing, cell));
-        Check.due(refused == null ? model.doorThatHelps(drawing, cell) : refused,
-                run + "doorThatHelps", () -> x.doorThatHelps(drawing, cell));
+        due(refused == null ? model.doorsOut(sides, drawing, cell) : refused,
+                "doorsOut", () -> x.doorsOut(drawing, cell));
+        due(refused == null ? model.doorThatHelps(drawing, cell) : refused,
+                "doorThatHelps", () -> x.doorThatHelps(drawing, cell));
     }
 
     private void permits() {
-        int drawing = number(model.drawings);
+        int drawing = drawing();
         Object due = INDEX;
         if (random.nextInt(5) > 1) {
             if (isDrawing(drawing)) {
@@ -208,28 +245,27 @@ public final class RandomRunsTest {
                     model.permits.add(model.picture(drawing));
                 }
             }
-            Check.due(due, run + "grant", () -> x.grant(drawing));
+            due(due, "grant", () -> x.grant(drawing));
         } else {
             if (isDrawing(drawing)) {
                 due = model.prints.size() < 30 ? (Object) model.print(drawing) : STATE;
             }
-            Check.due(due, run + "print", () -> x.print(drawing));
+            due(due, "print", () -> x.print(drawing));
         }
     }
 
-    private void ask() {
-        int drawing = number(model.drawings);
+    private void askDrawings() {
+        int drawing = drawing();
         int side = number(40);
         int cell = number(25);
         boolean is = isDrawing(drawing);
-        Check.due(model.drawings, run + "drawings", () -> x.drawings());
-        Check.due(is ? model.changer(drawing) : INDEX, run + "canChange",
+        due(model.drawings, "drawings", () -> x.drawings());
+        due(is ? model.changer(drawing) : INDEX, "canChange",
                 () -> x.canChange(drawing));
-        Check.due(!is ? INDEX : !within(side, 40) ? ARGUMENT : model.sides(drawing)[side],
-                run + "side", () -> x.side(drawing, side));
-        Check.due(!is ? INDEX : !within(cell, 25) ? ARGUMENT : model.hasExit(drawing, cell),
-                run + "hasExit", () -> x.hasExit(drawing, cell));
-        askPermits();
+        due(!is ? INDEX : !within(side, 40) ? ARGUMENT : model.sides(drawing)[side],
+                "side", () -> x.side(drawing, side));
+        due(!is ? INDEX : !within(cell, 25) ? ARGUMENT : model.hasExit(drawing, cell),
+                "hasExit", () -> x.hasExit(drawing, cell));
     }
 
     private void askPermits() {
@@ -237,15 +273,15 @@ public final class RandomRunsTest {
         int print = number(model.prints.size());
         boolean isPermit = within(permit, model.permits.size());
         boolean isPrint = within(print, model.prints.size());
-        Check.due(isPermit ? model.isNow(model.permits.get(permit)) : INDEX, run + "holds",
+        due(isPermit ? model.isNow(model.permits.get(permit)) : INDEX, "holds",
                 () -> x.holds(permit));
-        Check.due(isPrint ? model.permitsOfPrints.get(print) : INDEX, run + "permitOf",
+        due(isPrint ? model.permitsOfPrints.get(print) : INDEX, "permitOf",
                 () -> x.permitOf(print));
-        Check.due(isPrint ? model.permitsOfPrints.get(print) >= 0
-                && model.isNow(model.prints.get(print)) : INDEX, run + "isGood",
+        due(isPrint ? model.permitsOfPrints.get(print) >= 0
+                && model.isNow(model.prints.get(print)) : INDEX, "isGood",
                 () -> x.isGood(print));
         if (random.nextInt(5) == 0) {
-            Check.due(model.old(), run + "old", () -> x.old());
+            due(model.old(), "old", () -> x.old());
         }
     }
 }

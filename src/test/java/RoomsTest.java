@@ -13,6 +13,7 @@ public final class RoomsTest {
         doorThatHelps();
         doorThatHelpsElsewhere();
         doorThatHelpsNot();
+        eachCallLooksAnew();
         refusals();
         Check.end();
     }
@@ -202,6 +203,32 @@ public final class RoomsTest {
         Check.due(-1, "cell 24", () -> x.doorThatHelps(0, 24));
         Check.due(1, "it changed nothing: side", () -> x.side(0, 19));
         Check.due(-1, "it changed nothing: doorsOut", () -> x.doorsOut(0, 23));
+    }
+
+    /** No call leans on what the one before it found, of this drawing or of another. */
+    private static void eachCallLooksAnew() {
+        HousePlans x = plans(HousePlans.WALL);
+        x.begin();
+        x.lock(1, 1);
+        x.setExit(0, 0, 1, true);
+        Check.due(25, "rooms", () -> x.rooms(0));
+        Check.due(1, "rooms of the other", () -> x.rooms(1));
+        Check.due(24, "room", () -> x.room(0, 24));
+        Check.due(0, "room of the other", () -> x.room(1, 24));
+        Check.due(1, "size", () -> x.size(0, 24));
+        Check.due(25, "size of the other", () -> x.size(1, 24));
+        Check.due(0, "doorsOut", () -> x.doorsOut(0, 1));
+        Check.due(-1, "doorsOut of the other", () -> x.doorsOut(1, 1));
+        Check.due(0, "doorThatHelps", () -> x.doorThatHelps(0, 0));
+        Check.due(-1, "doorThatHelps of the other", () -> x.doorThatHelps(1, 0));
+        x.tell(0, 0, 0, HousePlans.DOOR);
+        Check.due(-1, "doorThatHelps after tell", () -> x.doorThatHelps(0, 0));
+        x.setExit(0, 0, 1, false);
+        Check.due(-1, "doorsOut after setExit", () -> x.doorsOut(0, 0));
+        x.tell(0, 0, 0, HousePlans.OPEN);
+        Check.due(2, "size after tell", () -> x.size(0, 0));
+        x.tell(0, 0, 0, HousePlans.WALL);
+        Check.due(1, "room after tell", () -> x.room(0, 1));
     }
 
     private static void refusals() {
