@@ -578,7 +578,7 @@ public final class HousePlans {
 
         /**
          * The lowest wall between a room that doors join to this one and a room with a way out;
-         * NONE if there is none. If this one has a way out, so have all those that doors join to it.
+         * NONE if there is none, or this one has a way out: then so have all that doors join to it.
          */
         private int wallThatHelps(int room) {
             if (doorsOutOf[room] != NONE) {

@@ -73,8 +73,11 @@ public final class PermitsTest {
     private static int[] sidesOf(int cell) {
         int row = cell / 5;
         int column = cell % 5;
-        return new int[] {column > 0 ? 4 * row + column - 1 : -1, column < 4 ? 4 * row + column : -1,
-            row > 0 ? 15 + cell : -1, row < 4 ? 20 + cell : -1};
+        return new int[] {
+            column > 0 ? 4 * row + column - 1 : -1,
+            column < 4 ? 4 * row + column : -1,
+            row > 0 ? 15 + cell : -1,
+            row < 4 ? 20 + cell : -1};
     }
 
     private static void grantAtMost() {
